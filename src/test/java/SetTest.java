@@ -16,6 +16,10 @@ public final class SetTest {
         doubtfulByThrownAway();
         pagesThatShow();
         lackingRanks();
+        eachQuestionAlone();
+        placeUpToTheLastPage();
+        firstPageIsDoubtful();
+        thrownAwayIsForgotten();
         emptySet();
         pageWrongInputs();
         CHECK.end();
@@ -253,6 +257,60 @@ public final class SetTest {
         x.turnBack();
         x.shoot();
         CHECK.due("page 6 is taken once more", x.count(3), 0);
+    }
+
+    private static LeafTurner scanned() {
+        LeafTurner x = Check.withBook("1!,1,1*,1");
+        x.scan(60);
+        return x;
+    }
+
+    /** What one question made of the pictures must not be needed by the next one. */
+    private static void eachQuestionAlone() {
+        // The pictures of the pages 0 to 7 are guessed as 2 3 2 3 4 5 6 7; only the
+        // gutter of the second one is bad.
+        CHECK.due("page(4, 1)", scanned().page(4, 1), 4);
+        CHECK.due("page(2, 3)", scanned().page(2, 3), 1);
+        CHECK.due("page(4, 3)", scanned().page(4, 3), 0);
+        CHECK.due("picture(3, 3)", scanned().picture(3, 3), 3);
+        CHECK.due("picture(2, 4)", scanned().picture(2, 4), 1);
+        CHECK.due("picture(3, 4)", scanned().picture(3, 4), 0);
+        CHECK.due("lacking(1)", scanned().lacking(1), 1);
+        CHECK.due("lacking(2)", scanned().lacking(2), -5);
+        CHECK.due("count(3)", scanned().count(3), 2);
+        CHECK.due("count(4)", scanned().count(4), 1);
+        CHECK.due("count(5)", scanned().count(5), 2);
+        CHECK.due("count(6)", scanned().count(6), 0);
+    }
+
+    private static void placeUpToTheLastPage() {
+        LeafTurner x = Check.withBook("1,1*");
+        x.scan(60);
+        x.shoot();
+        guesses(x, "the last page by its place", 0, 1, 2, 3, -5);
+        counts(x, "the last page by its place", 0, 0, 1, 1);
+    }
+
+    private static void firstPageIsDoubtful() {
+        LeafTurner x = Check.withBook("1,1");
+        x.print(3, 1);
+        x.scan(60);
+        x.throwAway(0);
+        guesses(x, "the first page doubtful", 1, 2, 0);
+        CHECK.due("page(0, 3)", x.page(0, 3), 1);
+        counts(x, "the first page doubtful", 1, 1, 0, 0);
+    }
+
+    private static void thrownAwayIsForgotten() {
+        LeafTurner x = Check.withBook("1*");
+        for (int i = 1; i <= 80; i++) {
+            x.shoot();
+            counts(x, "not guessed " + i, 2, 0, i, i);
+        }
+        for (int i = 79; i >= 0; i--) {
+            x.throwAway(i);
+            counts(x, "not guessed " + i, 2, 0, i, i);
+        }
     }
 
     private static void emptySet() {
