@@ -20,7 +20,7 @@ public final class BooksTest {
     }
 
     private static void newObject() {
-        LeafTurner x = new LeafTurner();
+        Turner x = new Turner();
         int[] counts = {0, 0, 0, 0, 0, 0, 0, 0, 0, 0, 6, 2, 0, 1, 0, 0, 0};
         for (int what = 0; what < counts.length; what++) {
             CHECK.due("new: count(" + what + ")", x.count(what), counts[what]);
@@ -41,7 +41,7 @@ public final class BooksTest {
     }
 
     private static void takeBookReadsLeaves() {
-        LeafTurner x = new LeafTurner();
+        Turner x = new Turner();
         Check.type(x, "1,9s9,5s1*,2!,3s4!");
         CHECK.due("takeBook()", x.takeBook(), 5);
         int[] weights = {1, 9, 5, 2, 3};
@@ -57,7 +57,7 @@ public final class BooksTest {
     }
 
     private static void takeBookPrints() {
-        LeafTurner x = Check.withBook("1,9s9,5s1*,2!,3s4!");
+        Turner x = Check.withBook("1,9s9,5s1*,2!,3s4!");
         int[] printed = {1, 2, 3, 4, -5, -5, 9, 10, 11, 12};
         for (int page = 0; page < printed.length; page++) {
             CHECK.due("page(" + page + ", 0)", x.page(page, 0), printed[page]);
@@ -111,7 +111,7 @@ public final class BooksTest {
     }
 
     private static void fault(String text, int index) {
-        LeafTurner x = new LeafTurner();
+        Turner x = new Turner();
         Check.type(x, text);
         CHECK.due("takeBook() of '" + text + "'", x.takeBook(), -100 - index);
         CHECK.due("no state of '" + text + "'", x.count(15), 0);
@@ -127,26 +127,26 @@ public final class BooksTest {
         taken(Check.leaves(30) + "1", -159);
         taken(Check.leaves(30) + "s", -160);
         taken(Check.leaves(29) + "s9", 29);
-        LeafTurner x = Check.withBook(Check.leaves(30) + "!");
+        Turner x = Check.withBook(Check.leaves(30) + "!");
         CHECK.due("the last page's number", x.page(59, 0), 62);
         CHECK.due("there is no page 60", x.page(60, 0), -1);
     }
 
     private static void taken(String text, int want) {
-        LeafTurner x = new LeafTurner();
+        Turner x = new Turner();
         Check.type(x, text);
         CHECK.due("takeBook() of '" + text + "'", x.takeBook(), want);
     }
 
     private static void takeBookClearsWhatIsOfTheBook() {
-        LeafTurner x = used();
+        Turner x = used();
         Check.type(x, "1,1");
         CHECK.due("takeBook()", x.takeBook(), 2);
         isFreshBook(x, 2);
     }
 
-    private static LeafTurner used() {
-        LeafTurner x = Check.withBook("1,1,5s9,5,9");
+    private static Turner used() {
+        Turner x = Check.withBook("1,1,5s9,5,9");
         x.setSuction(12);
         x.set(0, 3);
         x.set(2, 7);
@@ -156,7 +156,7 @@ public final class BooksTest {
         return x;
     }
 
-    private static void isFreshBook(LeafTurner x, int leaves) {
+    private static void isFreshBook(Turner x, int leaves) {
         CHECK.due("leaves", x.count(0), leaves);
         for (int what = 1; what <= 2; what++) {
             CHECK.due("cleared count(" + what + ")", x.count(what), 0);
@@ -177,7 +177,7 @@ public final class BooksTest {
     }
 
     private static void takeBookWithFaultChangesNothing() {
-        LeafTurner x = used();
+        Turner x = used();
         String before = Check.told(x);
         int states = x.count(15);
         Check.type(x, "9!,9*,9s");
@@ -188,7 +188,7 @@ public final class BooksTest {
     }
 
     private static void layBookBySeed() {
-        LeafTurner x = new LeafTurner();
+        Turner x = new Turner();
         // 77 becomes 4080, 9343, 5066 (by 421 * seed + 1663).
         CHECK.due("layBook(3, 77)", x.layBook(3, 77), 1 + 4 + 2);
         int[] weights = {1, 4, 2};
@@ -214,7 +214,7 @@ public final class BooksTest {
     }
 
     private static void laid(int leaves, int seed) {
-        LeafTurner x = new LeafTurner();
+        Turner x = new Turner();
         int answer = x.layBook(leaves, seed);
         String call = "layBook(" + leaves + ", " + seed + ")";
         long next = seed;
@@ -238,7 +238,7 @@ public final class BooksTest {
         int[][] wrong = {{0, 5}, {-1, 5}, {31, 5}, {5, -1}, {5, 10000}, {Integer.MIN_VALUE, 0},
             {Integer.MAX_VALUE, 0}, {1, Integer.MIN_VALUE}, {1, Integer.MAX_VALUE}};
         for (int[] pair : wrong) {
-            LeafTurner x = used();
+            Turner x = used();
             String before = Check.told(x);
             String call = "layBook(" + pair[0] + ", " + pair[1] + ")";
             int states = x.count(15);
@@ -249,13 +249,13 @@ public final class BooksTest {
     }
 
     private static void layBookClearsWhatIsOfTheBook() {
-        LeafTurner x = used();
+        Turner x = used();
         x.layBook(4, 5);
         isFreshBook(x, 4);
     }
 
     private static void printChanges() {
-        LeafTurner x = Check.withBook("1,1*");
+        Turner x = Check.withBook("1,1*");
         CHECK.due("print(0, 1) is so already", x.print(0, 1), -5);
         CHECK.due("print(2, -5) is so already", x.print(2, -5), -5);
         CHECK.due("neither is recorded", x.count(15), 1);
@@ -275,7 +275,7 @@ public final class BooksTest {
     }
 
     private static void printWrongInputs() {
-        LeafTurner x = Check.withBook("1,1");
+        Turner x = Check.withBook("1,1");
         int[] noPages = {-1, 4, 60, Integer.MIN_VALUE, Integer.MAX_VALUE};
         for (int page : noPages) {
             CHECK.due("print(" + page + ", 5)", x.print(page, 5), -1);
@@ -287,6 +287,6 @@ public final class BooksTest {
         }
         CHECK.due("page(3, 0) stays", x.page(3, 0), 4);
         CHECK.due("none is recorded", x.count(15), 1);
-        CHECK.due("without a book", new LeafTurner().print(0, 1), -1);
+        CHECK.due("without a book", new Turner().print(0, 1), -1);
     }
 }

@@ -127,7 +127,7 @@ public final class FaceTest {
         for (int i = 0; i < all.length; i++) {
             all[i] = new LeafTurner();
         }
-        sum += everyCall(all[0]);
+        sum += everyCall(new LeafTurner());
         threads.getThreadAllocatedBytes(thread);
         long before = threads.getThreadAllocatedBytes(thread);
         for (LeafTurner x : all) {
@@ -140,7 +140,7 @@ public final class FaceTest {
 
     private static long everyCall(LeafTurner x) {
         long sum = x.layBook(30, 1);
-        for (int i = 0; i < 10; i++) {
+        for (int i = 0; i < 6; i++) {
             sum += x.scan(10) + x.turn() + x.turnBack() + x.shoot() + x.throwAway(0);
             sum += x.setSuction(2 + i) + x.set(0, i) + x.set(1, i % 2) + x.print(3, i);
             sum += x.type('1') + x.takeBook() + x.clearText() + x.undo() + x.keep() + x.restore();

@@ -11,6 +11,8 @@ public final class HistoryTest {
         undoKeepsFour();
         undoBringsTheRowBack();
         keepAndRestore();
+        snapshotStays();
+        keepTakesThePlace();
         keepOfNoBook();
         restoreIsAnAct();
         askingChangesNothing();
@@ -20,7 +22,7 @@ public final class HistoryTest {
     }
 
     private static void typeTypes() {
-        LeafTurner x = new LeafTurner();
+        Turner x = new Turner();
         char[] any = {'1', ',', 's', ' ', '\0', '\n', 255, 256, 65535};
         for (int i = 0; i < 60; i++) {
             CHECK.due("type", x.type(any[i % any.length]), i + 1);
@@ -36,7 +38,7 @@ public final class HistoryTest {
     }
 
     private static void clearTextEmpties() {
-        LeafTurner x = new LeafTurner();
+        Turner x = new Turner();
         CHECK.due("clearText() at first", x.clearText(), 0);
         x.type('1');
         x.type('x');
@@ -50,7 +52,7 @@ public final class HistoryTest {
     }
 
     private static void textIsNoState() {
-        LeafTurner x = new LeafTurner();
+        Turner x = new Turner();
         Check.type(x, "1");
         x.keep();
         x.takeBook();
@@ -63,7 +65,7 @@ public final class HistoryTest {
     }
 
     private static void undoGoesBack() {
-        LeafTurner x = new LeafTurner();
+        Turner x = new Turner();
         CHECK.due("undo() at first", x.undo(), -5);
         x.setSuction(9);
         x.set(0, 4);
@@ -79,8 +81,8 @@ public final class HistoryTest {
         CHECK.due("undo() with none left", x.undo(), -5);
     }
 
-    private static LeafTurner inTheMidst() {
-        LeafTurner x = Check.withBook("1,2s9,1*,3!,1,9");
+    private static Turner inTheMidst() {
+        Turner x = Check.withBook("1,2s9,1*,3!,1,9");
         x.set(2, 2);
         x.scan(2);
         x.turnBack();
@@ -93,8 +95,8 @@ public final class HistoryTest {
 
     private static void undoOfEachAct() {
         for (int number = 0; number < 12; number++) {
-            LeafTurner x = inTheMidst();
-            String before = Check.told(x);
+            Turner x = inTheMidst();
+            String before = Check.told(inTheMidst());
             CHECK.holds("act " + number + " is no error", act(x, number) >= 0);
             CHECK.due("states behind act " + number, x.count(15), 4);
             CHECK.holds("act " + number + " changes", !before.equals(Check.told(x)));
@@ -104,7 +106,7 @@ public final class HistoryTest {
         }
     }
 
-    private static int act(LeafTurner x, int number) {
+    private static int act(Turner x, int number) {
         switch (number) {
             case 0:
                 return x.takeBook();
@@ -134,7 +136,7 @@ public final class HistoryTest {
     }
 
     private static void undoKeepsFour() {
-        LeafTurner x = new LeafTurner();
+        Turner x = new Turner();
         for (int suction = 7; suction <= 20; suction++) {
             x.setSuction(suction);
             CHECK.due("count(15)", x.count(15), Math.min(4, suction - 6));
@@ -159,7 +161,7 @@ public final class HistoryTest {
     }
 
     private static void undoBringsTheRowBack() {
-        LeafTurner x = Check.withBook("1,1,1,1,7,1");
+        Turner x = Check.withBook("1,1,1,1,7,1");
         x.set(1, 1);
         x.scan(4);
         CHECK.due("a turning of none ends the row", x.turn(), 0);
@@ -170,7 +172,7 @@ public final class HistoryTest {
     }
 
     private static void keepAndRestore() {
-        LeafTurner x = new LeafTurner();
+        Turner x = new Turner();
         CHECK.due("restore() at first", x.restore(), -5);
         CHECK.due("not recorded", x.count(15), 0);
         Check.type(x, "1,2s9,1*,3!,1,9");
@@ -185,21 +187,32 @@ public final class HistoryTest {
         }
         CHECK.due("restore()", x.restore(), 3);
         CHECK.holds("all is as it was kept", kept.equals(Check.told(x)));
+        CHECK.due("restore() of the same", x.restore(), 3);
+    }
+
+    private static void snapshotStays() {
+        Turner x = inTheMidst();
+        x.restore();
         x.layBook(30, 1);
         x.scan(20);
-        CHECK.due("the snapshot stays", x.restore(), 3);
-        CHECK.holds("all is as it was kept", kept.equals(Check.told(x)));
-        CHECK.due("restore() of the same", x.restore(), 3);
+        CHECK.due("the snapshot stays", x.restore(), 5);
+        Turner kept = inTheMidst();
+        kept.undo();
+        CHECK.holds("all is as it was kept", Check.told(x).equals(Check.told(kept)));
+    }
+
+    private static void keepTakesThePlace() {
+        Turner x = inTheMidst();
         x.shoot();
-        CHECK.due("keep() in its place", x.keep(), 5);
+        CHECK.due("keep() in its place", x.keep(), 7);
         String later = Check.told(x);
         x.layBook(1, 1);
-        CHECK.due("restore()", x.restore(), 5);
+        CHECK.due("restore()", x.restore(), 7);
         CHECK.holds("the later one", later.equals(Check.told(x)));
     }
 
     private static void keepOfNoBook() {
-        LeafTurner x = new LeafTurner();
+        Turner x = new Turner();
         CHECK.due("keep() without a book", x.keep(), 0);
         x.layBook(5, 5);
         x.scan(60);
@@ -212,7 +225,7 @@ public final class HistoryTest {
     }
 
     private static void restoreIsAnAct() {
-        LeafTurner x = new LeafTurner();
+        Turner x = new Turner();
         x.keep();
         CHECK.due("restore() of the same", x.restore(), 0);
         CHECK.due("it is recorded", x.count(15), 1);
@@ -227,7 +240,7 @@ public final class HistoryTest {
     }
 
     private static void askingChangesNothing() {
-        LeafTurner x = inTheMidst();
+        Turner x = inTheMidst();
         String before = Check.told(x);
         for (int rank = -1; rank < 5; rank++) {
             x.lacking(rank);
@@ -247,7 +260,7 @@ public final class HistoryTest {
     }
 
     private static void leafTells() {
-        LeafTurner x = Check.withBook("4s3,9,5s9");
+        Turner x = Check.withBook("4s3,9,5s9");
         int[][] told = {{4, 3}, {9, 0}, {5, 9}};
         x.turn();
         for (int leaf = 0; leaf < 3; leaf++) {
@@ -269,7 +282,7 @@ public final class HistoryTest {
     }
 
     private static void countTells() {
-        LeafTurner x = Check.withBook("1,2s9,1*,3!,7,9");
+        Turner x = Check.withBook("1,2s9,1*,3!,7,9");
         x.set(0, 3);
         x.set(1, 1);
         x.set(2, 2);

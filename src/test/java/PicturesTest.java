@@ -22,7 +22,7 @@ public final class PicturesTest {
     }
 
     private static void shootTakesWhatIsOpen() {
-        LeafTurner x = Check.withBook("1,1");
+        Turner x = Check.withBook("1,1");
         CHECK.due("the right one alone", x.shoot(), 1);
         x.turn();
         CHECK.due("both", x.shoot(), 2);
@@ -41,11 +41,11 @@ public final class PicturesTest {
         CHECK.due("it is an act", x.undo(), 3);
         CHECK.due("pictures", x.count(2), 3);
         CHECK.due("pairs", x.count(14), 2);
-        CHECK.due("without a book", new LeafTurner().shoot(), -4);
+        CHECK.due("without a book", new Turner().shoot(), -4);
     }
 
     private static void shootIsOfTheMoment() {
-        LeafTurner x = Check.withBook("1,1,1,1");
+        Turner x = Check.withBook("1,1,1,1");
         x.shoot();
         x.turn();
         x.shoot();
@@ -64,7 +64,7 @@ public final class PicturesTest {
     }
 
     private static void shootIsFull() {
-        LeafTurner x = Check.withBook("1,9");
+        Turner x = Check.withBook("1,9");
         x.turn();
         for (int i = 1; i <= 40; i++) {
             CHECK.due("shoot()", x.shoot(), 2);
@@ -75,9 +75,8 @@ public final class PicturesTest {
         CHECK.due("picture(79, 6)", x.picture(79, 6), 39);
         CHECK.due("picture(80, 6)", x.picture(80, 6), -1);
         CHECK.due("throwAway(79)", x.throwAway(79), 79);
-        String before = Check.told(x);
         CHECK.due("shoot() of two with 79", x.shoot(), -3);
-        CHECK.holds("nothing is changed", before.equals(Check.told(x)));
+        CHECK.holds("nothing is changed", Check.told(x).equals(Check.told(oneBelowFull())));
         x.turnBack();
         CHECK.due("shoot() of one with 79", x.shoot(), 1);
         CHECK.due("shoot() of one with 80", x.shoot(), -3);
@@ -85,8 +84,18 @@ public final class PicturesTest {
         CHECK.due("FULL is not recorded", x.count(2), 79);
     }
 
+    private static Turner oneBelowFull() {
+        Turner x = Check.withBook("1,9");
+        x.turn();
+        for (int i = 1; i <= 40; i++) {
+            x.shoot();
+        }
+        x.throwAway(79);
+        return x;
+    }
+
     private static void gutters() {
-        LeafTurner x = Check.withBook(Check.leaves(5));
+        Turner x = Check.withBook(Check.leaves(5));
         // The settings 0 to 2 ask five leaves, or fewer: then the side decides.
         int[][] good = {{1, 1, 1, 1, 1, 1, 1, 1, 1, 1}, {1, 1, 1, 1, 1, 1, 1, 1, 1, 1},
             {1, 0, 1, 1, 1, 1, 1, 1, 0, 1}, {1, 1, 1, 1, 1, 1, 1, 1, 1, 1}};
@@ -97,7 +106,7 @@ public final class PicturesTest {
                     good[least][page]);
             }
         }
-        LeafTurner six = Check.withBook(Check.leaves(6));
+        Turner six = Check.withBook(Check.leaves(6));
         six.set(0, 3);
         int[] sides = {1, 0, 1, 0, 1, 1, 1, 1, 0, 1, 0, 1};
         for (int page = 0; page < 12; page++) {
@@ -111,7 +120,7 @@ public final class PicturesTest {
     }
 
     private static void gutterOfThinBook() {
-        LeafTurner x = Check.withBook(Check.leaves(3));
+        Turner x = Check.withBook(Check.leaves(3));
         x.turn();
         x.shoot();
         CHECK.due("three leaves are fewer than twice 2", x.picture(0, 2), 1);
@@ -127,7 +136,7 @@ public final class PicturesTest {
     }
 
     private static void numbersAreRead() {
-        LeafTurner x = Check.withBook(Check.leaves(4));
+        Turner x = Check.withBook(Check.leaves(4));
         x.turn();
         int[] printed = {0, 9, 10, 99, 100, 199, -5};
         int[] read = {0, 0, 1, 9, 10, 19, -5};
@@ -141,7 +150,7 @@ public final class PicturesTest {
     }
 
     private static void scanTakesAndTurns() {
-        LeafTurner x = Check.withBook("1,1,1");
+        Turner x = Check.withBook("1,1,1");
         CHECK.due("scan(60)", x.scan(60), 6);
         CHECK.due("on the left", x.count(1), 3);
         CHECK.due("turnings", x.count(7), 3);
@@ -153,7 +162,7 @@ public final class PicturesTest {
         CHECK.due("scan(1) with none on the right", x.scan(1), 1);
         CHECK.due("picture(6, 0)", x.picture(6, 0), 5);
         CHECK.due("no turning", x.count(7), 3);
-        LeafTurner y = Check.withBook("1s9,1,1");
+        Turner y = Check.withBook("1s9,1,1");
         CHECK.due("two stick: pages 1 and 2 are not taken", y.scan(60), 4);
         int[] pages = {0, 3, 4, 5};
         for (int i = 0; i < 4; i++) {
@@ -162,7 +171,7 @@ public final class PicturesTest {
     }
 
     private static void scanStopsBehindTimes() {
-        LeafTurner x = Check.withBook("1,1,1");
+        Turner x = Check.withBook("1,1,1");
         CHECK.due("scan(1)", x.scan(1), 1);
         CHECK.due("on the left", x.count(1), 1);
         CHECK.due("scan(1)", x.scan(1), 2);
@@ -170,15 +179,15 @@ public final class PicturesTest {
         CHECK.due("scan(1), by which none is on the right", x.scan(1), 3);
         CHECK.due("on the left", x.count(1), 3);
         CHECK.due("pictures", x.count(2), 6);
-        LeafTurner y = Check.withBook("1,1,1");
+        Turner y = Check.withBook("1,1,1");
         CHECK.due("scan(2)", y.scan(2), 3);
         CHECK.due("turnings", y.count(7), 2);
-        LeafTurner z = Check.withBook("1,1,1");
+        Turner z = Check.withBook("1,1,1");
         CHECK.due("scan(3)", z.scan(3), 6);
     }
 
     private static void scanOfHeavyLeaf() {
-        LeafTurner x = Check.withBook("1,9");
+        Turner x = Check.withBook("1,9");
         CHECK.due("scan(4)", x.scan(4), 7);
         CHECK.due("turnings of none", x.count(9), 3);
         CHECK.due("on the left", x.count(1), 1);
@@ -187,7 +196,7 @@ public final class PicturesTest {
     }
 
     private static void scanIsOneAct() {
-        LeafTurner x = Check.withBook("1,1,1,1,1,1");
+        Turner x = Check.withBook("1,1,1,1,1,1");
         x.scan(4);
         CHECK.due("states", x.count(15), 2);
         CHECK.due("undo()", x.undo(), 1);
@@ -197,7 +206,7 @@ public final class PicturesTest {
     }
 
     private static void scanLearns() {
-        LeafTurner x = Check.withBook("9,9");
+        Turner x = Check.withBook("9,9");
         x.set(1, 1);
         // By 6 and 8 none is turned, by 10 one; 10 is enough for the other one.
         CHECK.due("scan(60)", x.scan(60), 1 + 1 + 1 + 2 + 1);
@@ -207,11 +216,10 @@ public final class PicturesTest {
     }
 
     private static void scanIsFull() {
-        LeafTurner x = Check.withBook("9");
+        Turner x = Check.withBook("9");
         CHECK.due("scan(60)", x.scan(60), 60);
-        String before = Check.told(x);
         CHECK.due("scan(21)", x.scan(21), -3);
-        CHECK.holds("nothing is changed", before.equals(Check.told(x)));
+        CHECK.holds("nothing is changed", Check.told(x).equals(Check.told(scannedSixty())));
         CHECK.due("not recorded", x.count(15), 2);
         CHECK.due("scan(20)", x.scan(20), 20);
         CHECK.due("pictures", x.count(2), 80);
@@ -227,10 +235,10 @@ public final class PicturesTest {
         CHECK.due("none on the right, but no room", x.scan(1), -3);
         x.throwAway(5);
         CHECK.due("none on the right, one more", x.scan(1), 1);
-        LeafTurner y = Check.withBook("1,9");
+        Turner y = Check.withBook("1,9");
         y.turn();
         CHECK.due("pairs", y.scan(40), 80);
-        LeafTurner z = Check.withBook("1,9");
+        Turner z = Check.withBook("1,9");
         z.turn();
         CHECK.due("more pairs", z.scan(41), -3);
         CHECK.due("the most", z.scan(60), -3);
@@ -238,20 +246,26 @@ public final class PicturesTest {
         CHECK.due("no picture", z.count(2), 0);
     }
 
+    private static Turner scannedSixty() {
+        Turner x = Check.withBook("9");
+        x.scan(60);
+        return x;
+    }
+
     private static void scanWrongInputs() {
-        LeafTurner x = Check.withBook("1,1");
+        Turner x = Check.withBook("1,1");
         int[] wrong = {0, -1, 61, Integer.MIN_VALUE, Integer.MAX_VALUE};
         for (int times : wrong) {
             CHECK.due("scan(" + times + ")", x.scan(times), -2);
-            CHECK.due("scan(" + times + ") without a book", new LeafTurner().scan(times), -2);
+            CHECK.due("scan(" + times + ") without a book", new Turner().scan(times), -2);
         }
-        CHECK.due("without a book", new LeafTurner().scan(60), -4);
+        CHECK.due("without a book", new Turner().scan(60), -4);
         CHECK.due("not recorded", x.count(15), 1);
         CHECK.due("pictures", x.count(2), 0);
     }
 
     private static void throwAwayMovesUp() {
-        LeafTurner x = Check.withBook("1,1,1");
+        Turner x = Check.withBook("1,1,1");
         x.scan(60);
         int[] wrong = {-1, 6, 79, 80, Integer.MIN_VALUE, Integer.MAX_VALUE};
         for (int picture : wrong) {
@@ -281,7 +295,7 @@ public final class PicturesTest {
     }
 
     private static void pictureTells() {
-        LeafTurner x = Check.withBook(Check.leaves(4));
+        Turner x = Check.withBook(Check.leaves(4));
         x.scan(1);
         x.shoot();
         int[][] told = {{0, 1, 1, 0, 0, 1, 0}, {1, 0, 0, 1, 0, 0, 1}, {2, 3, 1, 2, 0, 1, 1}};

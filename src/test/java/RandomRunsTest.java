@@ -3,12 +3,13 @@ import java.util.Random;
 /** Promises 1 to 24: runs of calls, always the same ones, with the model's answers as due. */
 public final class RandomRunsTest {
     private static final Check CHECK = new Check("RandomRunsTest");
-    private static final int RUNS = 400;
-    private static final int CALLS = 512;
+    private static final int RUNS = 1600;
+    private static final int CALLS_OF_ASK = 8;
+    private static final int CALLS_OF_TEXT = 2 + 31 * 6;
 
     private final Random random;
     private final int run;
-    private LeafTurner x = new LeafTurner();
+    private Turner x = new Turner();
     private Model model = new Model();
 
     private RandomRunsTest(int run) {
@@ -24,8 +25,8 @@ public final class RandomRunsTest {
     }
 
     private void play() {
-        for (int call = 0; call < CALLS; call++) {
-            if (random.nextInt(3) == 0) {
+        while (x.callsLeft() > 0) {
+            if (random.nextInt(3) == 0 && x.callsLeft() >= CALLS_OF_ASK) {
                 ask();
             } else {
                 change();
@@ -68,10 +69,13 @@ public final class RandomRunsTest {
     }
 
     private void typeText() {
+        if (x.callsLeft() < CALLS_OF_TEXT) {
+            return;
+        }
         if (random.nextInt(4) != 0) {
             due("clearText()", x.clearText(), model.clearText());
         }
-        int leaves = 1 + random.nextInt(random.nextBoolean() ? 31 : 6);
+        int leaves = 1 + random.nextInt(random.nextInt(5) == 0 ? 31 : 6);
         for (int leaf = 0; leaf < leaves; leaf++) {
             if (leaf > 0) {
                 type(',');

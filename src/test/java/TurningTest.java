@@ -22,7 +22,7 @@ public final class TurningTest {
     }
 
     private static void turnsOneAfterAnother() {
-        LeafTurner x = Check.withBook("1,6,2");
+        Turner x = Check.withBook("1,6,2");
         for (int leaf = 0; leaf < 3; leaf++) {
             CHECK.due("leaf not turned", x.leaf(leaf, 2), 0);
             CHECK.due("turn()", x.turn(), 1);
@@ -35,11 +35,11 @@ public final class TurningTest {
         CHECK.due("turnings of more", x.count(8), 0);
         CHECK.due("turnings of none", x.count(9), 0);
         CHECK.due("not recorded", x.count(15), 4);
-        CHECK.due("without a book", new LeafTurner().turn(), -4);
+        CHECK.due("without a book", new Turner().turn(), -4);
     }
 
     private static void turnsMoreThatStick() {
-        LeafTurner x = Check.withBook("2s9,1s9,3s9,1s9,1");
+        Turner x = Check.withBook("2s9,1s9,3s9,1s9,1");
         CHECK.due("2 + 1 + 3 are 6, one more is too heavy", x.turn(), 3);
         CHECK.due("on the left", x.count(1), 3);
         CHECK.due("turnings of more", x.count(8), 1);
@@ -47,12 +47,12 @@ public final class TurningTest {
         CHECK.due("turnings of more", x.count(8), 2);
         CHECK.due("turnings", x.count(7), 2);
         CHECK.due("all on the left", x.count(1), 5);
-        LeafTurner one = Check.withBook("2s9");
+        Turner one = Check.withBook("2s9");
         CHECK.due("the last leaf's strength does not matter", one.turn(), 1);
     }
 
     private static void turnsNoneThatIsHeavy() {
-        LeafTurner x = Check.withBook("7,1");
+        Turner x = Check.withBook("7,1");
         CHECK.due("turn()", x.turn(), 0);
         CHECK.due("on the left", x.count(1), 0);
         CHECK.due("turnings", x.count(7), 1);
@@ -65,24 +65,24 @@ public final class TurningTest {
 
     private static void strongSuctionShakesApart() {
         // 2 sticks to 2 by 4: from the suction 4 on both are light enough, from 6 on they part.
-        LeafTurner x = Check.withBook("2s4,2");
+        Turner x = Check.withBook("2s4,2");
         int[] turned = {0, 1, 1, 2, 2, 1, 1};
         for (int suction = 1; suction <= turned.length; suction++) {
             x.setSuction(suction);
             CHECK.due("turn() by " + suction, x.turn(), turned[suction - 1]);
             x.takeBook();
         }
-        LeafTurner y = Check.withBook("1s9,1,1");
+        Turner y = Check.withBook("1s9,1,1");
         CHECK.due("0 does not stick", y.turn(), 2);
-        LeafTurner z = Check.withBook("5s2,1s9,1");
+        Turner z = Check.withBook("5s2,1s9,1");
         CHECK.due("6 - 5 is less than 2, but 1 more is too heavy", z.turn(), 2);
         // The second leaf parts from the third: what comes behind that does not come with it.
-        LeafTurner w = Check.withBook("1s6,1s4,1s9,1");
+        Turner w = Check.withBook("1s6,1s4,1s9,1");
         CHECK.due("6 - 2 is not less than 4", w.turn(), 2);
     }
 
     private static void turnBackBringsOne() {
-        LeafTurner x = Check.withBook("2s9,1s9,3");
+        Turner x = Check.withBook("2s9,1s9,3");
         CHECK.due("turnBack() at first", x.turnBack(), -4);
         CHECK.due("not recorded", x.count(15), 1);
         x.turn();
@@ -95,11 +95,11 @@ public final class TurningTest {
         CHECK.due("turning back is no turning", x.count(7), 1);
         CHECK.due("undo()", x.undo(), 3);
         CHECK.due("on the left", x.count(1), 1);
-        CHECK.due("without a book", new LeafTurner().turnBack(), -4);
+        CHECK.due("without a book", new Turner().turnBack(), -4);
     }
 
     private static void setSuctionSets() {
-        LeafTurner x = new LeafTurner();
+        Turner x = new Turner();
         CHECK.due("setSuction(6)", x.setSuction(6), -5);
         int[] wrong = {0, -1, 21, Integer.MIN_VALUE, Integer.MAX_VALUE};
         for (int suction : wrong) {
@@ -114,7 +114,7 @@ public final class TurningTest {
     }
 
     private static void setSettings() {
-        LeafTurner x = new LeafTurner();
+        Turner x = new Turner();
         int[] first = {2, 0, 1};
         int[] most = {10, 1, 99};
         for (int which = 0; which < 3; which++) {
@@ -133,7 +133,7 @@ public final class TurningTest {
         for (int which : noSettings) {
             CHECK.due("set(" + which + ", 0)", x.set(which, 0), -2);
         }
-        LeafTurner y = new LeafTurner();
+        Turner y = new Turner();
         y.set(0, 2);
         y.set(2, 100);
         CHECK.due("not recorded", y.count(15), 0);
@@ -142,7 +142,7 @@ public final class TurningTest {
     }
 
     private static void openTells() {
-        LeafTurner x = Check.withBook("1,1s9,1");
+        Turner x = Check.withBook("1,1s9,1");
         int[][] open = {{-5, 0}, {1, 2}, {5, -5}};
         for (int[] sides : open) {
             CHECK.due("open(0)", x.open(0), sides[0]);
@@ -155,12 +155,12 @@ public final class TurningTest {
         int[] wrong = {-1, 2, Integer.MIN_VALUE, Integer.MAX_VALUE};
         for (int side : wrong) {
             CHECK.due("open(" + side + ")", x.open(side), -2);
-            CHECK.due("open(" + side + ") without a book", new LeafTurner().open(side), -2);
+            CHECK.due("open(" + side + ") without a book", new Turner().open(side), -2);
         }
     }
 
     private static void wouldTells() {
-        LeafTurner x = Check.withBook("3,2s4,2s9,5,1");
+        Turner x = Check.withBook("3,2s4,2s9,5,1");
         x.turn();
         int[] turned = {0, 1, 1, 2, 2, 1, 1, 1, 1, 1};
         for (int suction = 1; suction <= 10; suction++) {
@@ -170,7 +170,7 @@ public final class TurningTest {
         int[] wrong = {0, -1, 21, Integer.MIN_VALUE, Integer.MAX_VALUE};
         for (int suction : wrong) {
             CHECK.due("would(" + suction + ")", x.would(suction), -2);
-            CHECK.due("would(" + suction + ") without a book", new LeafTurner().would(suction), -2);
+            CHECK.due("would(" + suction + ") without a book", new Turner().would(suction), -2);
         }
         CHECK.due("nothing is turned", x.count(1), 1);
         CHECK.due("nothing is recorded", x.count(15), 2);
@@ -178,11 +178,11 @@ public final class TurningTest {
         x.setSuction(20);
         CHECK.due("the leaves part", x.turn() + x.turn() + x.turn() + x.turn(), 4);
         CHECK.due("would(5) with none on the right", x.would(5), -4);
-        CHECK.due("would(5) without a book", new LeafTurner().would(5), -4);
+        CHECK.due("would(5) without a book", new Turner().would(5), -4);
     }
 
     private static void bestTells() {
-        LeafTurner x = Check.withBook("9s9,2s4,1s9");
+        Turner x = Check.withBook("9s9,2s4,1s9");
         x.setSuction(20);
         int[] best = {9, 2, 1};
         for (int due : best) {
@@ -191,11 +191,11 @@ public final class TurningTest {
             CHECK.due("turn()", x.turn(), 1);
         }
         CHECK.due("best() with none on the right", x.best(), -4);
-        CHECK.due("best() without a book", new LeafTurner().best(), -4);
+        CHECK.due("best() without a book", new Turner().best(), -4);
     }
 
     private static void learnsFromNone() {
-        LeafTurner x = Check.withBook("9");
+        Turner x = Check.withBook("9");
         CHECK.due("turn()", x.turn(), 0);
         CHECK.due("it does not learn at first", x.count(10), 6);
         x.set(1, 1);
@@ -208,7 +208,7 @@ public final class TurningTest {
     }
 
     private static void learnsFromMore() {
-        LeafTurner x = Check.withBook("1s9,1,1s9,1s9,1");
+        Turner x = Check.withBook("1s9,1,1s9,1s9,1");
         x.set(1, 1);
         CHECK.due("turn()", x.turn(), 2);
         CHECK.due("1 more", x.count(10), 7);
@@ -217,7 +217,7 @@ public final class TurningTest {
     }
 
     private static void learnsFromFiveSingles() {
-        LeafTurner x = Check.withBook(Check.leaves(30));
+        Turner x = Check.withBook(Check.leaves(30));
         x.set(1, 1);
         for (int i = 1; i <= 30; i++) {
             CHECK.due("turn()", x.turn(), 1);
@@ -229,7 +229,7 @@ public final class TurningTest {
     }
 
     private static void rowIsCountedAnew() {
-        LeafTurner x = Check.withBook("1,1,1,1,7,1,1,1,1,1,1,1,1");
+        Turner x = Check.withBook("1,1,1,1,7,1,1,1,1,1,1,1,1");
         x.set(1, 1);
         x.scan(4);
         CHECK.due("a turning of none", x.turn(), 0);
@@ -250,7 +250,7 @@ public final class TurningTest {
         CHECK.due("counted anew with each book", x.count(10), 7);
         CHECK.due("the fifth", x.turn(), 1);
         CHECK.due("1 less", x.count(10), 6);
-        LeafTurner y = Check.withBook("1,1,1,1,1s9,1,1,1,1,1,1");
+        Turner y = Check.withBook("1,1,1,1,1s9,1,1,1,1,1,1");
         y.set(1, 1);
         singles(y, 4);
         CHECK.due("a turning of two", y.turn(), 2);
@@ -260,14 +260,14 @@ public final class TurningTest {
         CHECK.due("five behind that", y.count(10), 6);
     }
 
-    private static void singles(LeafTurner x, int howMany) {
+    private static void singles(Turner x, int howMany) {
         for (int i = 0; i < howMany; i++) {
             CHECK.due("turn()", x.turn(), 1);
         }
     }
 
     private static void rowIsCountedWithoutLearning() {
-        LeafTurner x = Check.withBook(Check.leaves(12));
+        Turner x = Check.withBook(Check.leaves(12));
         singles(x, 4);
         x.set(1, 1);
         singles(x, 1);
