@@ -394,6 +394,16 @@ public final class BoundsOfActsTest {
         doc.due("throwAway(2), the last one", x.throwAway(2), 2);
         doc.due("throwAway(0), the first one", x.throwAway(0), 1);
         doc.due("picture(0, 0)", x.picture(0, 0), 1);
+        // Of four leaves the pages 1 and 6 have bad gutters.
+        x = Check.withBook(Check.leaves(4));
+        x.scan(60);
+        x.throwAway(0);
+        int[] numbers = {0, 3, 4, 5, 6, 0, 8};
+        int[] gutters = {0, 1, 1, 1, 1, 0, 1};
+        for (int picture = 0; picture < 7; picture++) {
+            doc.due("picture(" + picture + ", 1)", x.picture(picture, 1), numbers[picture]);
+            doc.due("picture(" + picture + ", 2)", x.picture(picture, 2), gutters[picture]);
+        }
     }
 
     private static void throwAwayUpToNone() {

@@ -16,6 +16,7 @@ public final class BoundsOfPicturesTest {
         numberByGutter();
         guessByNumber();
         guessByNumberNeedsGutter();
+        guessIsOfTheMoment();
         guessByOffset();
         guessByThePictureAhead();
         guessBehindTheLastPage();
@@ -235,6 +236,41 @@ public final class BoundsOfPicturesTest {
         doc.due("picture(2, 3) of a bad gutter, by its place", x.picture(2, 3), 3);
     }
 
+    private static void guessIsOfTheMoment() {
+        doc.says("all of them are those of the moment when it was taken");
+        Turner x = Check.withBook(Check.leaves(6));
+        x.print(1, 11);
+        x.turn();
+        x.shoot();
+        x.shoot();
+        guessed(x, -5, 2, 3, 2);
+        x.set(0, 0);
+        x.print(1, 2);
+        doc.due("page(1, 4) now", x.page(1, 4), 1);
+        guessed(x, -5, 2, 3, 2);
+        x.print(2, 9);
+        guessed(x, -5, 2, 3, 2);
+        // By its place behind page 6 the picture of page 8 would be guessed as 7.
+        x = Check.withBook(Check.leaves(6));
+        x.scan(4);
+        x.shoot();
+        x.throwAway(7);
+        x.set(0, 3);
+        doc.due("page(8, 4) now", x.page(8, 4), 0);
+        guessed(x, 0, 1, 2, 3, 4, 5, 6, 8);
+        doc.due("page(8, 1), whose gutter was good", x.page(8, 1), 7);
+        x.print(8, -5);
+        x.shoot();
+        guessed(x, 0, 1, 2, 3, 4, 5, 6, 8, 7, 8);
+        doc.due("page(8, 1), whose gutter was good", x.page(8, 1), 7);
+        x.print(8, 9);
+        x.throwAway(7);
+        doc.due("page(8, 1), whose gutter was bad", x.page(8, 1), 8);
+        x.set(0, 2);
+        x.shoot();
+        doc.due("page(8, 1), whose gutter is good again", x.page(8, 1), 10);
+    }
+
     private static void guessByOffset() {
         doc.says("o being the offset (the setting 2, 0 to 99; 1 at first)");
         Turner x = new Turner();
@@ -397,6 +433,13 @@ public final class BoundsOfPicturesTest {
         x.shoot();
         doc.due("page(0, 3), which lacks", x.page(0, 3), 0);
         doc.due("page(1, 3), whose picture shows 0", x.page(1, 3), 1);
+        doc.due("count(4), the last page alone", x.count(4), 1);
+        x = Check.withBook("1");
+        x.turn();
+        x.print(1, 1);
+        x.shoot();
+        doc.due("page(0, 3), whose picture shows 1", x.page(0, 3), 1);
+        doc.due("count(4), the first page alone", x.count(4), 1);
     }
 
     private static void spare() {
